@@ -546,7 +546,7 @@ public final class GobRow {
 
     /** How many DEGREES must be gone up in the ring, 0 to 359. */
     private static int wayUp(int from, int to) {
-        return Math.floorMod(to - from, DEGREES);
+        return to < from ? to - from + DEGREES : to - from;
     }
 
     /** Never below 1, so that it may divide. */
@@ -601,11 +601,6 @@ public final class GobRow {
             return wayUp(on[act], degree) < length(act);
         }
 
-        // Where two ACTS are both done, the one that came ON later came ON while the other was done.
-        boolean areBothDone(int a, int b) {
-            return isDone(a, on[b]) || isDone(b, on[a]);
-        }
-
         boolean isInside(int inner, int outer) {
             return wayUp(on[outer], on[inner]) + length(inner) <= length(outer);
         }
@@ -630,7 +625,8 @@ public final class GobRow {
                 case KIND_AHEAD:
                     return wayUp(drum.off[a], drum.on[b]) < n;
                 case KIND_APART:
-                    return drum.areBothDone(a, b);
+                    // Where both are done, one of them came ON while the other one was done.
+                    return drum.isDone(a, drum.on[b]) || drum.isDone(b, drum.on[a]);
                 case KIND_LONG:
                     return drum.length(a) * 500 < 3 * turnsAMinute * n;
                 default:
@@ -810,7 +806,9 @@ public final class GobRow {
         }
 
         private static boolean isClearAt(Knots low, Knots high, int degree) {
-            return distanceAbove(low, high, degree) >= CLEARANCE * distanceBelow(low, high, degree);
+            int lowBelow = low.below(degree);
+            long lowSide = (long) (low.above(degree) + CLEARANCE * lowBelow) * high.below(degree);
+            return lowSide <= (long) high.above(degree) * lowBelow;
         }
 
         private static int nearerDegree(Knots low, Knots high, int best, int degree) {

@@ -15,6 +15,7 @@ public final class PromisesTest {
         copy();
         lawNumbers();
         lawKinds();
+        lawsAtTheirEdge();
         lawsInNumber();
         repeal();
         pace();
@@ -24,6 +25,7 @@ public final class PromisesTest {
         arm();
         armBetweenBoth();
         armAtFractions();
+        armNearAtOneKnot();
         knot();
         forget();
         place();
@@ -258,6 +260,28 @@ public final class PromisesTest {
         due(5, x.law(1, 7, 4, 0));
     }
 
+    private static void lawsAtTheirEdge() {
+        GobRow x = new GobRow();
+        for (int section = 0; section < 6; section++) {
+            due(1, x.set(section, 0, 0, 41));
+            due(1, x.set(section, 2, 0, 60));
+        }
+        // OFF one DEGREE behind ON: all the ring but one must be gone up
+        due(0, x.law(0, 0, 1, 359));
+        due(GobRow.LAW, x.set(0, 1, 41, 60));
+        due(GobRow.LAW, x.set(0, 1, 39, 60));
+        due(0, x.repeal());
+        // 60 DEGREES times 500 are 30000, as 3 times 10 times 1000 are
+        due(GobRow.LAW, x.law(2, 2, 2, 1001));
+        due(0, x.law(2, 2, 2, 1000));
+        due(10, x.fastest());
+        due(GobRow.LAW, x.pace(11));
+        due(10, x.pace(9));
+        due(1, x.law(2, 2, 2, 1002));
+        due(9, x.fastest());
+        due(GobRow.LAW - 1, x.pace(10));
+    }
+
     private static void lawsInNumber() {
         GobRow x = new GobRow();
         for (int k = 0; k < 16; k++) {
@@ -452,6 +476,8 @@ public final class PromisesTest {
         }
         due(6, x.arm(1));
         due(305, x.place(1, 300, 0));
+        due(0, x.nearest(0, 1));
+        due(300, x.nearest(1, 2));
     }
 
     private static void armBetweenBoth() {
@@ -497,6 +523,30 @@ public final class PromisesTest {
         due(2, x.knot(1, 84));
         due(3, x.knot(2, 300));
         due(3, x.arm(1));
+        due(100, x.place(0, 1, 0));
+        due(3, x.place(0, 1, 1));
+    }
+
+    private static void armNearAtOneKnot() {
+        GobRow x = new GobRow();
+        // of ARM 0 at 10 alone: at 0 it is at 260 times 160 / 170, below 250
+        due(1, x.knot(10, 260));
+        due(2, x.knot(200, 0));
+        due(GobRow.NEAR, x.arm(0));
+        due(2, x.forget());
+        due(1, x.knot(0, 240));
+        due(1, x.arm(0));
+        // of ARM 1 at 10 alone: at 0 it is above 290
+        due(1, x.knot(10, 280));
+        due(2, x.knot(200, 550));
+        due(GobRow.NEAR, x.arm(1));
+        due(2, x.forget());
+        // the last of six
+        for (int k = 0; k < 5; k++) {
+            due(k + 1, x.knot(10 * k, 290));
+        }
+        due(6, x.knot(50, 289));
+        due(GobRow.NEAR, x.arm(1));
     }
 
     // Promise 12
@@ -633,6 +683,21 @@ public final class PromisesTest {
         due(4, x.knot(91, 400));
         due(4, x.arm(1));
         due(40, x.nearest(0, 1));
+        // no ARM has a KNOT at 0, and the line through 0 is level
+        due(1, x.knot(20, 0));
+        due(1, x.arm(0));
+        due(1, x.knot(150, 300));
+        due(1, x.arm(1));
+        due(0, x.nearest(0, 1));
+        due(1, x.knot(20, 200));
+        due(2, x.knot(100, 0));
+        due(3, x.knot(300, 200));
+        due(3, x.arm(0));
+        due(0, x.nearest(0, 1));
+        due(1, x.knot(20, 200));
+        due(2, x.knot(100, 0));
+        due(2, x.arm(0));
+        due(20, x.nearest(0, 1));
     }
 
     // Promise 16
