@@ -7,28 +7,20 @@ import java.util.List;
  */
 final class Model {
     static final class Act {
-        int on;
-        int off;
+        final int on;
+        final int off;
+        final boolean[] done = new boolean[360];
+        final int degrees;
 
         Act(int on, int off) {
             this.on = on;
             this.off = off;
-        }
-
-        boolean[] done() {
-            boolean[] done = new boolean[360];
+            int count = 0;
             for (int d = on; d != off; d = (d + 1) % 360) {
                 done[d] = true;
+                count++;
             }
-            return done;
-        }
-
-        int degrees() {
-            int count = 0;
-            for (boolean is : done()) {
-                count += is ? 1 : 0;
-            }
-            return count;
+            degrees = count;
         }
     }
 
@@ -99,8 +91,8 @@ final class Model {
     }
 
     static boolean breaks(Act[] drum, Law law, int pace) {
-        boolean[] a = drum[law.a].done();
-        boolean[] b = drum[law.b].done();
+        boolean[] a = drum[law.a].done;
+        boolean[] b = drum[law.b].done;
         switch (law.kind) {
             case 0:
                 return up(drum[law.a].off, drum[law.b].on) < law.n;
@@ -112,7 +104,7 @@ final class Model {
                 }
                 return false;
             case 2:
-                return drum[law.a].degrees() * 500L < 3L * pace * law.n;
+                return drum[law.a].degrees * 500L < 3L * pace * law.n;
             default:
                 for (int d = 0; d < 360; d++) {
                     if (a[d] && !b[d]) {
@@ -235,35 +227,31 @@ final class Model {
         return switch (what) {
             case 0 -> it.on;
             case 1 -> it.off;
-            case 2 -> it.degrees();
-            default -> it.done()[degree] ? 1 : 0;
+            case 2 -> it.degrees;
+            default -> it.done[degree] ? 1 : 0;
         };
     }
 
     static Fraction at(List<Knot> knots, int degree) {
-        Knot from = null;
-        Knot to = null;
-        int back = 0;
-        while (from == null) {
-            from = knotAt(knots, (degree - back + 360) % 360);
-            back += from == null ? 1 : 0;
+        Knot from = knots.get(0);
+        Knot to = knots.get(0);
+        for (Knot knot : knots) {
+            from = back(knot, degree) < back(from, degree) ? knot : from;
+            to = on(knot, degree) < on(to, degree) ? knot : to;
         }
-        int on = 1;
-        while (to == null) {
-            to = knotAt(knots, (degree + on) % 360);
-            on += to == null ? 1 : 0;
-        }
-        long below = back + on;
-        return new Fraction((long) from.place * on + (long) to.place * back, below);
+        int back = back(from, degree);
+        int on = on(to, degree);
+        return new Fraction((long) from.place * on + (long) to.place * back, back + on);
     }
 
-    static Knot knotAt(List<Knot> knots, int degree) {
-        for (Knot knot : knots) {
-            if (knot.degree == degree) {
-                return knot;
-            }
-        }
-        return null;
+    /** How far back in the ring a KNOT is: 0 to 359. */
+    static int back(Knot knot, int degree) {
+        return (degree - knot.degree + 360) % 360;
+    }
+
+    /** How far on in the ring it is: 1 to 360. */
+    static int on(Knot knot, int degree) {
+        return 360 - back(knot, degree);
     }
 
     static Fraction distance(List<Knot> low, List<Knot> high, int degree) {

@@ -5,7 +5,7 @@ import java.util.Random;
  * every answer must be the same. Refused calls are among them, so what one of them changed would show.
  */
 public final class ModelTest {
-    private static final int RUNS = 160;
+    private static final int RUNS = 480;
     /** What the document allows an object, less the most calls that one step of a run makes. */
     private static final int CALLS = 512 - 10;
     private static final int ALL_THEMES = 3;
@@ -132,7 +132,7 @@ public final class ModelTest {
         if (!Model.out(a, 0, 7) && !Model.out(b, 0, 7) && !seldom()) {
             int least = Integer.MAX_VALUE;
             for (Model.Act[] drum : model.drums) {
-                int bound = kind == 0 ? Model.up(drum[a].off, drum[b].on) : drum[a].degrees() * 500 / (3 * model.pace);
+                int bound = kind == 0 ? Model.up(drum[a].off, drum[b].on) : drum[a].degrees * 500 / (3 * model.pace);
                 least = Math.min(least, bound);
             }
             n = random.nextBoolean() ? least + random.nextInt(3) - 1 : random.nextInt(least + 1);
