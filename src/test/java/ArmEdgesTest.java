@@ -466,6 +466,19 @@ public final class ArmEdgesTest {
         due(0, x.nearest(0, 1));
     }
 
+    @Edge(promise = 15, words = "The first DEGREE at which ARMS i < j are nearest")
+    static void nearestOnceByOneArmAndOnceByTheOther() {
+        GobRow x = new GobRow();
+        move(x, 0, 40, 0, 50, 10, 60, 0);
+        move(x, 1, 10, 300, 20, 290, 30, 300);
+        due(20, x.nearest(0, 1));
+        move(x, 0, 10, 0, 20, 10, 30, 0);
+        move(x, 1, 40, 300, 50, 290, 60, 300);
+        due(20, x.nearest(0, 1));
+        move(x, 1, 40, 300, 50, 289, 60, 300);
+        due(50, x.nearest(0, 1));
+    }
+
     @Edge(promise = 15, words = "(the PLACE of j less that of i is least)")
     static void nearestByAFraction() {
         GobRow x = new GobRow();
