@@ -5,69 +5,88 @@ import java.lang.reflect.Method;
 import java.lang.reflect.Modifier;
 import java.nio.file.Files;
 import java.nio.file.Path;
-import java.util.Arrays;
+import java.util.ArrayList;
 import java.util.List;
+import java.util.Map;
 import java.util.Set;
+import java.util.TreeMap;
 import java.util.TreeSet;
 import java.util.regex.Pattern;
 
 /** The public face of GobRow, and those rules of the language that can be seen from outside. */
 public final class FaceTest {
     private static final Check CHECK = new Check("FaceTest");
-    private static final String[] METHODS = {"set 4", "turn 2", "copy 2", "law 4", "repeal 0", "pace 1", "fastest 0",
-        "act 4", "would 4", "arm 1", "knot 2", "forget 0", "place 3", "nearest 2", "stop 1", "start 1", "job 2", "aim 3",
-        "glass 2", "mould 2", "swab 1", "repair 1", "pull 2", "rule 2", "book 2", "cut 1", "drain 0", "bottle 2", "many 1"};
-    private static final String[] CONSTANTS = {"NUMBER", "FULL", "TWICE", "NONE", "NEAR", "LAW"};
 
     public static void main(String[] args) throws IOException {
-        constants();
-        members();
-        inside();
+        Face face = Face.ofDocument();
+        CHECK.holds("lines of the document's face that could not be read: " + face.unread, face.unread.isEmpty());
+        constants(face);
+        members(face);
+        inside(face);
         text();
         CHECK.end();
     }
 
-    private static void constants() {
+    private static void constants(Face face) {
         CHECK.due("NUMBER", -1, GobRow.NUMBER);
         CHECK.due("FULL", -2, GobRow.FULL);
         CHECK.due("TWICE", -3, GobRow.TWICE);
         CHECK.due("NONE", -4, GobRow.NONE);
         CHECK.due("NEAR", -5, GobRow.NEAR);
         CHECK.due("LAW", -100, GobRow.LAW);
-    }
-
-    private static void members() {
-        CHECK.holds("GobRow is public and final", Modifier.isPublic(GobRow.class.getModifiers())
-            && Modifier.isFinal(GobRow.class.getModifiers()));
-        Set<String> methods = new TreeSet<>();
-        for (Method method : GobRow.class.getDeclaredMethods()) {
-            if (!Modifier.isPrivate(method.getModifiers())) {
-                methods.add(method.getName() + " " + method.getParameterCount());
-                CHECK.holds(method + " is public, answers an int and throws nothing", method.getReturnType() == int.class
-                    && Modifier.isPublic(method.getModifiers()) && !Modifier.isStatic(method.getModifiers())
-                    && method.getExceptionTypes().length == 0);
-            }
-        }
-        CHECK.holds("methods: " + methods, methods.equals(new TreeSet<>(Arrays.asList(METHODS))));
-        Set<String> fields = new TreeSet<>();
+        Map<String, Integer> constants = new TreeMap<>();
         for (Field field : GobRow.class.getDeclaredFields()) {
             if (!Modifier.isPrivate(field.getModifiers())) {
-                fields.add(field.getName());
+                CHECK.holds(field + " is public and static", Modifier.isPublic(field.getModifiers())
+                    && Modifier.isStatic(field.getModifiers()));
+                constants.put(field.getName(), valueOf(field));
             }
             CHECK.holds(field + " is final if it is static", !Modifier.isStatic(field.getModifiers())
                 || Modifier.isFinal(field.getModifiers()));
         }
-        CHECK.holds("constants: " + fields, fields.equals(new TreeSet<>(Arrays.asList(CONSTANTS))));
+        CHECK.holds("constants: " + constants, constants.equals(face.constants));
+    }
+
+    private static Integer valueOf(Field field) {
+        try {
+            return field.getType() == int.class ? (Integer) field.getInt(null) : null;
+        } catch (IllegalAccessException e) {
+            return null;
+        }
+    }
+
+    private static void members(Face face) {
+        CHECK.holds("GobRow is public and final", Modifier.isPublic(GobRow.class.getModifiers())
+            && Modifier.isFinal(GobRow.class.getModifiers()));
+        CHECK.holds("GobRow extends and implements nothing", GobRow.class.getSuperclass() == Object.class
+            && GobRow.class.getInterfaces().length == 0);
+        Set<String> methods = new TreeSet<>();
+        for (Method method : GobRow.class.getDeclaredMethods()) {
+            if (!Modifier.isPrivate(method.getModifiers())) {
+                methods.add(asTyped(method));
+                CHECK.holds(method + " is public and throws nothing", Modifier.isPublic(method.getModifiers())
+                    && !Modifier.isStatic(method.getModifiers()) && method.getExceptionTypes().length == 0);
+            }
+        }
+        Set<String> due = new TreeSet<>();
+        face.calls.values().forEach(call -> due.add(call.asTyped()));
+        CHECK.due("calls of the document's face", 29, due.size());
+        CHECK.holds("methods: " + methods + ", due are " + due, methods.equals(due));
         Constructor<?>[] constructors = GobRow.class.getDeclaredConstructors();
         CHECK.holds("one public constructor without parameters", constructors.length == 1
             && Modifier.isPublic(constructors[0].getModifiers()) && constructors[0].getParameterCount() == 0);
     }
 
-    private static void inside() {
-        Set<String> faceNames = new TreeSet<>();
-        for (String method : METHODS) {
-            faceNames.add(method.substring(0, method.indexOf(' ')));
+    private static String asTyped(Method method) {
+        List<String> types = new ArrayList<>();
+        for (Class<?> type : method.getParameterTypes()) {
+            types.add(type.getName());
         }
+        return method.getReturnType().getName() + " " + method.getName() + "(" + String.join(", ", types) + ")";
+    }
+
+    private static void inside(Face face) {
+        Set<String> faceNames = face.calls.keySet();
         Class<?>[] classes = GobRow.class.getDeclaredClasses();
         CHECK.holds("at most twelve classes", classes.length + 1 <= 12);
         for (Class<?> inner : classes) {
